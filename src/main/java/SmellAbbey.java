@@ -52,7 +52,6 @@ public final class SmellAbbey {
     private final int[] otherMix = new int[MOST_STUFFS];
     private final int[] marks = new int[MOST_DAYS];
     private Told told = new Told();
-    private Told draft = new Told();
     private int taped;
     private boolean imaged;
 
@@ -85,16 +84,14 @@ public final class SmellAbbey {
         }
         taped = 0;
         int lines = 0;
-        reader.open(tape, n, draft);
+        reader.open(tape, n);
         while (lines < n && reader.hasMore()) {
             if (reader.readLine() == NONE) {
                 return NONE;
             }
             lines++;
         }
-        Told earlier = told;
-        told = draft;
-        draft = earlier;
+        told = reader.exchange(told);
         now.begin(told);
         notes.clear();
         undoing.clear();
@@ -901,12 +898,18 @@ public final class SmellAbbey {
         int fault;
         int place = NONE;
 
-        void open(byte[] bytes, int length, Told into) {
-            told = into;
+        void open(byte[] bytes, int length) {
             told.clear();
             fault = 0;
             place = NONE;
             scanner.open(bytes, length);
+        }
+
+        /** Gives what was read for what was told earlier, which the next text is read into. */
+        Told exchange(Told earlier) {
+            Told read = told;
+            told = earlier;
+            return read;
         }
 
         boolean hasMore() {
