@@ -16,13 +16,16 @@ public final class AskTest {
     firstWrong();
     sextons();
     asksChangeNothing();
+    fullHouse();
     check.end();
   }
 
   /** Promises 18 and 19. */
   private static void pairs() {
     SmellAbbey x = Check.abbey("stuff s 9;day a;day b;day c;day d;mix a s 5;mix c s 5;room r 100;room q 0;monk m r 5;monk n q 5;law keen nose+date;");
+    check.due("pair(0, 0), asked first", x.pair(0, 0), 2);
     check.due("a c and b d", x.mixedUp(0), 2);
+    check.due("pair(1, 0), asked behind the other one's", x.pair(1, 0), 1);
     check.due("pair(0, 0)", x.pair(0, 0), 2);
     check.due("pair(0, 1)", x.pair(0, 1), 13);
     check.due("pair(0, 2)", x.pair(0, 2), -2);
@@ -67,6 +70,10 @@ public final class AskTest {
     SmellAbbey smelled = Check.abbey("stuff s 1;stuff t 1;day a;day b;mix a s 9;mix b s 9;room r 100;monk m r 5;");
     check.due("what is smelled already does not mend", smelled.mending(0, 0, 1, 0), 1);
     check.due("five of the other", smelled.mending(0, 0, 1, 1), 5);
+    SmellAbbey just = Check.abbey("stuff s 1;stuff t 1;day a;day b;mix a s 5;mix b s 5;mix b t 4;room r 100;monk m r 5;");
+    check.due("nor what is just smelled", just.mending(0, 0, 1, 0), 1);
+    check.due("one more", just.mending(0, 0, 1, 1), 1);
+    check.due("a hundred more", Check.abbey("stuff s 1;day a;day b;room r 99;monk m r 99;").mending(0, 0, 1, 1), -2);
     SmellAbbey far = Check.abbey("stuff s 1;day a;day b;mix b s 1;room r 99;room q 98;monk m r 99;monk n q 99;");
     check.due("99 at most", far.mending(0, 0, 1, 1), 99);
     check.due("more than 99", far.mending(1, 0, 1, 1), -2);
@@ -150,6 +157,9 @@ public final class AskTest {
     SmellAbbey same = Check.abbey("stuff s 1;day a;day b;day c;mix b s 3;mix c s 3;");
     check.due("the first of several", same.dearest(0), 1);
     check.due("told, though the store is less", same.dearest(1), 3);
+    SmellAbbey one = Check.abbey("stuff s 1;day a;mix a s 3;law worth 5;");
+    check.due("one day", one.dearest(0), 0);
+    check.due("one day costs", one.dearest(1), 15);
     SmellAbbey free = Check.abbey("day a;day b;");
     check.due("nothing costs", free.dearest(0), 0);
     check.due("nothing", free.dearest(1), 0);
@@ -170,6 +180,11 @@ public final class AskTest {
     for (int[] w : wrong) {
       check.due("inPlace(" + w[0] + ", " + w[1] + ")", x.inPlace(w[0], w[1]), -1);
     }
+    SmellAbbey gone = Check.abbey("stuff s 9;stuff t 9;day a;day b;mix a s 1;room r 100;monk m r 1;");
+    check.due("one is enough", gone.inPlace(0, 1), 1);
+    SmellAbbey both = Check.abbey("stuff s 9;stuff t 9;day a;day b;mix a s 1;mix a t 1;mix b s 1;room r 100;monk m r 1;");
+    check.due("s is mixed no more, t only so", both.inPlace(0, 1), 0);
+    check.due("but t as s tells", both.inPlace(1, 0), 1);
     check.due("without monks", Check.abbey("stuff s 1;stuff t 1;").inPlace(0, 1), 0);
     check.due("without days", Check.abbey("stuff s 1;stuff t 1;room r 1;monk m r 1;").inPlace(0, 1), 1);
   }
@@ -186,6 +201,10 @@ public final class AskTest {
     check.due("the first of one mark", x.letter(2, 1, 0), 1);
     x.cold(0, 0, true);
     check.due("no colds", x.letter(2, 0, 2), 1);
+    SmellAbbey cut = Check.abbey("stuff s 9;day a;day b;mix a s 99;mix b s 98;room r 1;monk m r 99;");
+    check.due("98 is not 99", cut.letter(1, 0, 0), 1);
+    check.due("99 is", cut.letter(0, 0, 0), 0);
+    check.due("nor is 90 of a hundred", cut.letter(0, 0, 1), 1);
     SmellAbbey all = Check.abbey("stuff s 9;day a;mix a s 9;room r 0;monk m r 9;law keen nose-date;");
     check.due("none is such", all.letter(0, 0, 1), -2);
     all.go(1);
@@ -237,6 +256,7 @@ public final class AskTest {
         }
       }
     }
+    check.due("rest(5, 0), asked first", x.rest(5, 0), rests[0]);
     check.due("rests(5)", x.rests(5), many);
     check.due("there are some", many > 0, true);
     for (int k = 0; k < many; k++) {
@@ -254,11 +274,99 @@ public final class AskTest {
     check.due("2 + 2 of one stuff are 4", x.rest(2, 1), 1);
     check.due("3 and 3 of t make a feast: all but those with others", x.rests(3), 6);
     x.wind(2, 4);
-    check.due("besides the wind", x.rests(1) == 9, true);
+    check.due("besides the wind", x.rests(1), 9);
+    sextonsGain();
+    SmellAbbey firstDay = Check.abbey("stuff s 0;stuff t 0;day a feast;day b;mix a s 5;mix b t 5;room r 100;monk m r 5;");
+    // s s is a, a feast; t t is b; s t is none: a, behind the last one
+    check.due("the first day is the feast", firstDay.rests(5), 2);
+    check.due("s by both", firstDay.rest(5, 0), 0);
+    check.due("s by one, t by the other one", firstDay.rest(5, 1), 1);
+    check.due("one stuff", Check.abbey("day a;stuff s 1;").rests(99), 1);
+    check.due("one day that is a feast", Check.abbey("day a feast;stuff s 1;stuff t 1;room r 1;monk m r 1;").rests(1), 4);
     check.due("no stuffs", Check.abbey("day a;").rests(1), -1);
     check.due("no days", Check.abbey("stuff s 1;").rests(1), -1);
     check.due("no days", Check.abbey("stuff s 1;").rest(1, 0), -1);
     check.due("without monks", Check.abbey("day a;stuff s 1;stuff t 1;").rests(99), 4);
+  }
+
+  /** The wind that is there makes the difference, and each can only change his own stuff. */
+  private static void sextonsGain() {
+    String text = "stuff s 0;stuff t 0;stuff u 0;day a;day b feast;day c feast;mix b t 5;mix c u 5;room r 100;monk m r 5;";
+    SmellAbbey x = Check.abbey(text);
+    // nothing is in the air but what is burnt: t t is b, u u is c, feasts; all others are a by being none
+    int[][] feasts = {{0, 0, 0}, {0, 1, 0}, {0, 0, 1}};
+    check.due("four at most of each: only together", x.rests(4), rested(feasts));
+    x.wind(1, 2);
+    // with 2 of t: t with any is b unless u comes to 5; 3 of t do
+    int[][] more = {{0, 1, 0}, {1, 1, 1}, {0, 1, 0}};
+    check.due("with the wind", x.rests(3), rested(new int[][] {{0, 1, 0}, {1, 1, 1}, {0, 1, 0}}));
+    check.due("t as both", x.rest(3, 0), first(more));
+  }
+
+  /** As many of each as there may be, so that nothing reaches beyond its rows. */
+  private static void fullHouse() {
+    StringBuilder text = new StringBuilder("linger 30;");
+    String names = "abcdefgh";
+    for (int i = 0; i < 8; i++) {
+      text.append("day ").append(names.charAt(i)).append(i % 3 == 0 ? " feast;" : ";");
+    }
+    for (int i = 0; i < 6; i++) {
+      text.append("stuff ").append(names.charAt(i)).append(" 999;room ").append(names.charAt(i)).append(' ').append(100 - i).append(';');
+    }
+    for (int i = 0; i < 5; i++) {
+      text.append("monk ").append(names.charAt(i)).append(' ').append(names.charAt(i)).append(" 20;");
+    }
+    for (int i = 0; i < 24; i++) {
+      text.append("mix ").append(names.charAt(i / 3)).append(' ').append(names.charAt((i + i / 6) % 6)).append(" 30;");
+    }
+    SmellAbbey x = Check.abbey(text.toString());
+    for (int i = 0; i < 24; i++) {
+      x.note(1 + i, i % 5, i % 8, false);
+    }
+    x.wind(5, 9);
+    long sum = 0;
+    for (int round = 0; round < 3; round++) {
+      sum += x.lasts(0) + x.lasts(1) + x.dearest(0) + x.dearest(1) + x.inPlace(0, 5) + x.firstWrong(99) + x.rests(20) + x.rest(20, 35);
+      for (int monk = 0; monk < 5; monk++) {
+        sum += x.mixedUp(monk) + x.pair(monk, 28) + x.mending(monk, 0, 7, 0) + x.placeTo(monk, 0) + x.letter(7, monk, 3) + x.colds(monk);
+      }
+      for (int what = 0; what < 6; what++) {
+        sum += x.tried(what, 0, 99);
+      }
+      sum += x.chance(round, 40, 20) + x.needs(5, 99) + x.count(10) + x.go(40);
+    }
+    check.due("all of that can be asked", sum != 0, true);
+    check.due("24 mixes", x.count(4), 24);
+    check.due("go", x.count(6), 120);
+  }
+
+  private static int rested(int[][] has) {
+    int many = 0;
+    for (int one = 0; one < has.length; one++) {
+      for (int two = 0; two < has.length; two++) {
+        many += isRest(has, one, two) ? 1 : 0;
+      }
+    }
+    return many;
+  }
+
+  private static int first(int[][] has) {
+    for (int one = 0; one < has.length; one++) {
+      for (int two = 0; two < has.length; two++) {
+        if (isRest(has, one, two)) {
+          return 10 * one + two;
+        }
+      }
+    }
+    return -2;
+  }
+
+  private static boolean isRest(int[][] has, int one, int two) {
+    boolean rest = true;
+    for (int other = 0; other < has.length; other++) {
+      rest = rest && has[other][two] <= has[one][two] && has[one][other] >= has[one][two];
+    }
+    return rest;
   }
 
   private static void asksChangeNothing() {

@@ -292,6 +292,12 @@ public final class MorningTest {
       x.go(1);
       check.due("lingering", x.air(0, 0), air);
     }
+    SmellAbbey none = Check.abbey("stuff s 99;day a;day b;mix a s 99;room r 100;");
+    none.wind(0, 99);
+    none.go(1);
+    check.due("198", none.air(0, 0), 198);
+    none.go(1);
+    check.due("nothing lingers if not told", none.air(0, 0), 0);
     SmellAbbey all = Check.abbey("stuff s 99;day a;mix a s 9;room r 100;linger 100;");
     all.go(3);
     check.due("all of it lingers", all.air(0, 0), 27);
@@ -394,6 +400,10 @@ public final class MorningTest {
   private static void withoutMonks() {
     SmellAbbey x = Check.abbey("day a;day b feast;");
     x.go(2);
+    SmellAbbey one = Check.abbey("stuff s 9;day a;mix a s 9;room r 100;monk m r 5;law air 0;");
+    one.go(3);
+    check.due("one day", one.monk(0, 4), 0);
+    check.due("is right always", one.count(8), 3);
     check.due("the day itself", x.count(7), 1);
     check.due("right", x.count(8), 2);
     check.due("no wrong feast", x.count(9), 0);

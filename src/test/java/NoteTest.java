@@ -146,6 +146,12 @@ public final class NoteTest {
       }
     }
     check.due("some are neither 0 nor 10", between > 3, true);
+    SmellAbbey one = Check.abbey("stuff s 999;day a;day b;mix b s 9;room r 100;monk m r 9;");
+    int gusts = 0;
+    for (int seed = 0; seed < 20; seed++) {
+      gusts += 10 - one.chance(seed * 99999999, 1, 1);
+    }
+    check.due("winds of the one stuff there is", gusts > 20 && gusts < 80, true);
     SmellAbbey x = Check.abbey(text);
     check.due("the greatest seed", x.chance(2147483647, 1, 0), 10);
     check.due("40 of 40 mornings", x.chance(0, 40, 40) >= 0, true);
@@ -204,6 +210,8 @@ public final class NoteTest {
     check.due("as it is", cold.tried(0, 0, 4), byGoing(cold, -1, 4));
     check.due("nobody has a cold", cold.tried(2, 0, 4), byGoing(cold, 0, 4));
     check.due("all parts are 100", cold.tried(5, 0, 4), 4);
+    triedWithoutColds();
+    triedWithFullParts();
     SmellAbbey absent = Check.abbey("stuff s 999;day a;day b;mix a s 9;room r 100;room q 100;monk m q 5;monk n r 5;law air (place=0)*much+place*9;");
     check.due("m thinks a always, a is the first", absent.tried(0, 0, 4), 2);
     check.due("m isn't there", absent.tried(3, 0, 4), 4);
@@ -218,6 +226,26 @@ public final class NoteTest {
     }
     check.due("without days", Check.abbey("stuff s 1;").tried(0, 0, 9), 0);
     check.due("without monks", Check.abbey("day a;day b;").tried(0, 0, 9), 9);
+  }
+
+  private static void triedWithoutColds() {
+    SmellAbbey x = Check.abbey("stuff s 999;day a;day b;day c;mix b s 9;room r 100;monk m r 5;monk n r 5;law air (date=0)*9+(date>0)*much;");
+    x.go(1);
+    check.due("b for a", x.count(7), 1);
+    x.cold(0, 0, true);
+    x.cold(1, 0, true);
+    check.due("with colds they are one ahead", x.tried(0, 0, 6), 0);
+    check.due("without, b is b: right from then on", x.tried(2, 0, 6), 6);
+  }
+
+  private static void triedWithFullParts() {
+    SmellAbbey x = Check.abbey("stuff s 999;day a;day b;day c;mix b s 9;mix c s 99;room r 50;monk m r 9;law keen part-91+(part=50)*50;");
+    x.wind(0, 9);
+    x.go(1);
+    check.due("c for a", x.count(7), 2);
+    check.due("too little of b reaches him: a", x.tried(0, 0, 1), 0);
+    check.due("if all did: b", x.tried(5, 0, 1), 1);
+    check.due("c puts him right", x.tried(0, 0, 5), 4);
   }
 
   /** How often the house is right if one monk's cold is gone, by going and coming back. */

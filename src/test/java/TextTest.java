@@ -7,6 +7,9 @@ public final class TextTest {
     tape();
     lines();
     readsAgain();
+    nothingIsLeftOfEarlierTexts();
+    threeLaws();
+    endsWithinTheTape();
     faultOne();
     faultTwo();
     faultThree();
@@ -116,6 +119,73 @@ public final class TextTest {
     check.due("no law", x.law(2, 0, 0), Long.MIN_VALUE);
   }
 
+  /** A text, good or faulty, and the one ahead of it leave nothing in the next one. */
+  private static void nothingIsLeftOfEarlierTexts() {
+    String full = "stuff s 9;stuff t 9;day a feast;day b feast;mix a s 9;mix b t 9;linger 50;seed 5;law air 5;law keen 7;law worth 9;";
+    String plain = "stuff s 8;stuff t 8;day a;day b;room r 100;monk m r 5;";
+    SmellAbbey x = Check.abbey(full);
+    check.due("again", Check.tell(x, full), 11);
+    check.due("and once more", Check.tell(x, full), 11);
+    check.due("knots", x.count(5), 3);
+    Check.tell(x, full + "mix a s 1;");
+    check.due("a fault", x.fault(0), 3);
+    check.due("then a plain one", Check.tell(x, plain), 6);
+    check.due("no knots", x.count(5), 0);
+    check.due("no mixes", x.count(4), 0);
+    for (int i = 0; i < 2; i++) {
+      check.due("no feast", x.feast(i), 0);
+      check.due("no mix", x.mix(i, i), 0);
+      check.due("worth", x.stuff(i, 1), 1);
+    }
+    check.due("no law of the air", x.law(0, 0, 0), Long.MIN_VALUE);
+    check.due("no law of a nose", x.law(1, 0, 0), Long.MIN_VALUE);
+    x.wind(0, 8);
+    x.go(2);
+    check.due("nothing lingers", x.air(0, 0), 0);
+    check.due("no wrong feast", x.count(9), 0);
+    check.due("laws anew", Check.tell(x, "stuff s 3;law worth much*2;law keen 1+1;"), 3);
+    check.due("worth by the new law", x.stuff(0, 1), 6);
+    SmellAbbey wrong = Check.abbey("stuff s 9;day a;day b feast;mix b s 9;room r 100;monk m r 5;law air 9;");
+    wrong.go(3);
+    check.due("wrong feasts", wrong.count(9) > 0, true);
+    wrong.text(0);
+    check.due("none any more", wrong.count(9), 0);
+  }
+
+  private static void threeLaws() {
+    SmellAbbey x = new SmellAbbey();
+    for (int i = 0; i < 3; i++) {
+      check.due("laws", Check.tell(x, "stuff s 3;room r 9;monk m r 7;law worth much" + "+much".repeat(9) + ";law keen nose" + "+1".repeat(10)
+          + ";law air part" + "-1".repeat(11) + ";"), 6);
+      check.due("63 knots", x.count(5), 63);
+      check.due("worth", x.law(2, 0, 0), 30);
+      check.due("keen", x.law(1, 0, 0), 17);
+      check.due("air", x.law(0, 0, 0), -2);
+    }
+  }
+
+  /** What lies behind the n-th byte is no part of a token. */
+  private static void endsWithinTheTape() {
+    String[] texts = {"day abc;", "day a;stuff b 12;", "law air 1<=2;", "law air 1<>2;", "law air 1>=2;", "law air much;", "day a; ;"};
+    int[] lengths = {6, 15, 10, 10, 10, 9, 7};
+    int[] faults = {1, 1, 1, 1, 1, 1, 0};
+    for (int i = 0; i < texts.length; i++) {
+      SmellAbbey x = new SmellAbbey();
+      Check.feedAll(x, Check.bytes(texts[i]));
+      check.due(texts[i] + " cut", x.text(lengths[i]), faults[i] == 0 ? 1 : -1);
+      check.due(texts[i] + " fault", x.fault(0), faults[i]);
+      check.due(texts[i] + " place", x.fault(1), i == 5 ? 8 : faults[i] == 0 ? -1 : lengths[i]);
+    }
+    SmellAbbey full = new SmellAbbey();
+    String text = "day a;" + " ".repeat(690) + "day";
+    Check.feedAll(full, Check.bytes(text + "x"));
+    check.due("a word up to the end of the tape", full.text(700), -1);
+    check.due("a word of the language and a letter", full.fault(1), 696);
+    Check.feedAll(full, Check.bytes(" ".repeat(694) + "day  a"));
+    check.due("a line up to the end of the tape", full.text(700), -1);
+    check.due("more must come", full.fault(1), 700);
+  }
+
   private static void stir(SmellAbbey x) {
     x.go(3 - x.count(6));
     x.keep();
@@ -184,6 +254,7 @@ public final class TextTest {
     SmellAbbey x = Check.abbey(sum + "law keen 1;");
     check.due("64 knots", x.count(5), 64);
     fault(sum + "law keen 1+2;", 2, sum.length() + 10);
+    fault("law air (1+2)*3;law keen (((((((((1;", 2, 33);
     fault(sum + "law keen not 2;", 2, sum.length() + 13);
     fault("law air " + "not ".repeat(64) + "1;", 2, 8 + 256);
     fine("law air " + "not ".repeat(63) + "1;", 1);
@@ -251,7 +322,7 @@ public final class TextTest {
         "1000*1000*1000*1000", "1000*1000*1000*1000+1", "0-1000*1000*1000*1000", "0-1000*1000*1000*1000-1",
         "1000*1000*1000*1000-1+1", "1000*1000*1000*(0-1000)-1", "1000*1000*1000*1000*(1000*1000*1000*1000)",
         "0*(1000*1000*1000*1000)", "(0-1000*1000)*(0-1000*1000)", "(0-1000*1001)*(0-1000*1000)",
-        "(0-1000*1001)*(1000*1000)", "1000*1000*1000*999*1", "1000*1000*1000*1000*1", "1000*1000*1000*1000*(0-1)"};
+        "(0-1000*1001)*(1000*1000)", "4096*4096*256*(4096*4096*256)", "(0-4096*4096*256)*(4096*4096*256)", "1000*1000*1000*999*1", "1000*1000*1000*1000*1", "1000*1000*1000*1000*(0-1)"};
     long e = Long.MIN_VALUE;
     long cube = 9999L * 9999 * 9999;
     long top = 1000000000000L;
@@ -263,7 +334,7 @@ public final class TextTest {
         top, e, -top, e,
         top, e, e,
         0, top, e,
-        e, 999000000000L, top, -top};
+        e, e, e, 999000000000L, top, -top};
     for (int i = 0; i < formulas.length; i++) {
       SmellAbbey x = Check.abbey("stuff s 5;law worth " + formulas[i] + ";");
       check.due(formulas[i], x.law(2, 0, 0), values[i]);
