@@ -22,6 +22,14 @@ final class Check {
     due(call, got ? 1 : 0, want ? 1 : 0);
   }
 
+  void due(String call, String got, String want) {
+    asked++;
+    if (!got.equals(want)) {
+      wrong++;
+      System.out.println(name + ": " + call + " answered " + got + ", due is " + want);
+    }
+  }
+
   void end() {
     System.out.println(name + ": " + asked + " asked, " + wrong + " wrong");
     if (wrong > 0 || asked == 0) {
