@@ -321,6 +321,9 @@ public final class EdgeMorningTest {
     check.due("times, both just more below", worth("(0-1000*1000-1)*(0-1000*1000)"), ERROR);
     check.due("times, beyond a long", worth("(" + top + ")*(" + top + ")"), ERROR);
     check.due("times, 2 to the 64 is not 0", worth("(4096*4096*256)*(4096*4096*256)"), ERROR);
+    check.due("nor so", worth("(8192*8192*128)*(4096*4096*128)"), ERROR);
+    check.due("nor below 0", worth("(0-8192*8192*128)*(4096*4096*128)"), ERROR);
+    check.due("nor by a number below 0", worth("(8192*8192*128)*(0-4096*4096*128)"), ERROR);
     check.due("times 0", worth("(" + top + ")*0"), 0);
     check.due("0 times", worth("0*(" + top + ")"), 0);
     check.due("times 1", worth("(" + top + ")*1"), most);

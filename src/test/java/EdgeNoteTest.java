@@ -27,6 +27,7 @@ public final class EdgeNoteTest {
     chanceWithout();
     triedNone();
     triedNothingLingers();
+    triedNobodyHasACold();
     triedWithoutTheOnlyMonk();
     triedEndlessStores();
     triedAllPartsWhole();
@@ -395,6 +396,27 @@ public final class EdgeNoteTest {
       check.due("nor does what is there", y.tried(1, 0, 10), 10);
       check.due("the air stays", y.air(0, 0), 9);
     }
+  }
+
+  /** 2 nobody has a cold: the first one as little as the last. */
+  private static void triedNobodyHasACold() {
+    SmellAbbey x = Check.abbey("stuff s 999;day a;day b;day c;mix b s 9;room r 100;monk i r 5;monk j r 5;monk k r 5;monk l r 5;monk m r 5;"
+        + "law air (date=0)*9+(date>0)*much;");
+    x.go(1);
+    check.due("all think b on a", x.count(7), 1);
+    for (int monk = 0; monk < 5; monk++) {
+      x.cold(monk, 0, true);
+    }
+    check.due("with colds all days are alike: one ahead ever since", x.tried(0, 0, 99), 0);
+    check.due("without they smell b on b", x.tried(2, 0, 99), 99);
+    check.due("each alone isn't there, the others have colds", x.tried(3, 0, 9) + x.tried(3, 4, 9), 0);
+    check.due("they have them still", x.monk(0, 2) + x.monk(4, 2), 2);
+    for (int monk = 0; monk < 2; monk++) {
+      x.cold(monk, 0, false);
+    }
+    check.due("two without are less than three with", x.tried(0, 0, 1), 0);
+    x.cold(4, 0, false);
+    check.due("three are more than two", x.tried(0, 0, 1), 1);
   }
 
   /** 3 monk i isn't there: without the only one the house keeps the day itself. */

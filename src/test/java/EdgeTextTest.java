@@ -26,6 +26,7 @@ public final class EdgeTextTest {
     asManyAsThereMayBe();
     ninthBracket();
     sixtyFifthKnot();
+    nothingIsLeftOfABrokenE();
     knotsOneEach();
     signsOfTwo();
     oneComparison();
@@ -469,6 +470,23 @@ public final class EdgeTextTest {
     SmellAbbey y = new SmellAbbey();
     Check.tell(y, sum + "+1;");
     check.due("knots of a text with a fault do not count", Check.tell(y, sum + ";law keen 1;"), 2);
+    SmellAbbey z = Check.abbey("stuff s 5;room r 1;monk m r 7;" + sum + ";law worth much;");
+    check.due("the first of 64 counts", z.law(0, 0, 0), 32);
+    check.due("and the last", z.law(2, 0, 0), 5);
+  }
+
+  /** What a fault breaks off in the midst of an E is no part of the next text's. */
+  private static void nothingIsLeftOfABrokenE() {
+    String[] broken = {"law keen not ", "law keen not not not 1@", "law keen 1+", "law keen 1 or not (1*", "law keen ((((((((", "law keen 1 and 2 = 3 +"};
+    SmellAbbey x = new SmellAbbey();
+    for (String text : broken) {
+      for (int i = 0; i < 12; i++) {
+        check.due(text, Check.tell(x, text), -1);
+      }
+      check.due("then one without a fault", Check.tell(x, "stuff s 5;law worth much+2;"), 2);
+      check.due("is as if there had been none", x.law(2, 0, 0), 7);
+      check.due("likewise its knots", x.count(5), 3);
+    }
   }
 
   /** N, NAMES, signs, not, and, or: one each; brackets none. */
