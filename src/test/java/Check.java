@@ -1,4 +1,5 @@
 import java.nio.charset.StandardCharsets;
+import java.util.NoSuchElementException;
 
 /** What the tests share: comparing answers, and telling an abbey a text by its tape. */
 final class Check {
@@ -70,6 +71,18 @@ final class Check {
       throw new IllegalArgumentException("fault " + abbey.fault(0) + " at " + abbey.fault(1) + " in " + text);
     }
     return abbey;
+  }
+
+  /** What monk() throws: 0 nothing, 1 that there is no such monk, 2 that there is no such what, 3 something else of these kinds. */
+  static int thrown(SmellAbbey x, int monk, int what) {
+    try {
+      x.monk(monk, what);
+      return 0;
+    } catch (IndexOutOfBoundsException e) {
+      return e.getClass() == IndexOutOfBoundsException.class ? 1 : 3;
+    } catch (NoSuchElementException e) {
+      return e.getClass() == NoSuchElementException.class ? 2 : 3;
+    }
   }
 
   static int letters(String name) {

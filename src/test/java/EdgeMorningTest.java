@@ -1,5 +1,3 @@
-import java.util.NoSuchElementException;
-
 /** Promises 6 to 17 and part 2 of the terms: each sentence that names a boundary has a method of its own here. */
 public final class EdgeMorningTest {
   private static final Check check = new Check("EdgeMorningTest");
@@ -377,30 +375,19 @@ public final class EdgeMorningTest {
     check.due("but it is", x.air(0, 0), 30);
   }
 
-  private static int thrown(SmellAbbey x, int monk, int what) {
-    try {
-      x.monk(monk, what);
-      return 0;
-    } catch (IndexOutOfBoundsException e) {
-      return e.getClass() == IndexOutOfBoundsException.class ? 1 : 3;
-    } catch (NoSuchElementException e) {
-      return e.getClass() == NoSuchElementException.class ? 2 : 3;
-    }
-  }
-
   /** Promise 6: IndexOutOfBoundsException: no such monk. NoSuchElementException: no such what. */
   private static void monksThatThereAreNot() {
     SmellAbbey x = Check.abbey("room r 1;monk a r 1;monk b r 1;monk c r 1;monk d r 1;monk e r 1;");
     for (int what = 0; what <= 4; what++) {
-      check.due("the last of five", thrown(x, 4, what), 0);
-      check.due("the sixth", thrown(x, 5, what), 1);
-      check.due("the one ahead of the first", thrown(x, -1, what), 1);
-      check.due("without monks", thrown(new SmellAbbey(), 0, what), 1);
+      check.due("the last of five", Check.thrown(x, 4, what), 0);
+      check.due("the sixth", Check.thrown(x, 5, what), 1);
+      check.due("the one ahead of the first", Check.thrown(x, -1, what), 1);
+      check.due("without monks", Check.thrown(new SmellAbbey(), 0, what), 1);
     }
     int[] none = {-1, 5, Integer.MIN_VALUE, Integer.MAX_VALUE};
     for (int what : none) {
-      check.due("no such what " + what, thrown(x, 4, what), 2);
-      check.due("neither", thrown(x, 5, what), 1);
+      check.due("no such what " + what, Check.thrown(x, 4, what), 2);
+      check.due("neither", Check.thrown(x, 5, what), 1);
     }
     check.due("it can be asked on", x.monk(4, 1), 1);
   }

@@ -1,5 +1,3 @@
-import java.util.NoSuchElementException;
-
 /** Promises 6 to 17: what is there now, laws, what calls change, and the mornings themselves. */
 public final class MorningTest {
   private static final Check check = new Check("MorningTest");
@@ -37,24 +35,13 @@ public final class MorningTest {
         check.due("monk(" + monk + ", " + what + ")", x.monk(monk, what), now[monk][what]);
       }
     }
-    check.due("monk(2, 0)", thrown(x, 2, 0), 1);
-    check.due("monk(-1, 0)", thrown(x, -1, 0), 1);
-    check.due("monk(2, 9)", thrown(x, 2, 9), 1);
-    check.due("monk(0, 5)", thrown(x, 0, 5), 2);
-    check.due("monk(0, -1)", thrown(x, 0, -1), 2);
-    check.due("monk(0, 0) of a new one", thrown(new SmellAbbey(), 0, 0), 1);
+    check.due("monk(2, 0)", Check.thrown(x, 2, 0), 1);
+    check.due("monk(-1, 0)", Check.thrown(x, -1, 0), 1);
+    check.due("monk(2, 9)", Check.thrown(x, 2, 9), 1);
+    check.due("monk(0, 5)", Check.thrown(x, 0, 5), 2);
+    check.due("monk(0, -1)", Check.thrown(x, 0, -1), 2);
+    check.due("monk(0, 0) of a new one", Check.thrown(new SmellAbbey(), 0, 0), 1);
     check.due("thought without days", Check.abbey("room r 1;monk m r 1;").monk(0, 4), -1);
-  }
-
-  private static int thrown(SmellAbbey x, int monk, int what) {
-    try {
-      x.monk(monk, what);
-      return 0;
-    } catch (IndexOutOfBoundsException e) {
-      return e.getClass() == IndexOutOfBoundsException.class ? 1 : 3;
-    } catch (NoSuchElementException e) {
-      return e.getClass() == NoSuchElementException.class ? 2 : 3;
-    }
   }
 
   /** Promise 7. */

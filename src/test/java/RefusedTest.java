@@ -1,5 +1,3 @@
-import java.util.NoSuchElementException;
-
 /**
  * Every argument of every call, one by one, all others being fine: at both ends of its range the call is taken; one beyond them and as far
  * beyond as an int goes it is refused with the answer that the document names, and all stays as it was.
@@ -58,13 +56,8 @@ public final class RefusedTest {
   }
 
   private static long monk(SmellAbbey x, int monk, int what) {
-    try {
-      return x.monk(monk, what);
-    } catch (IndexOutOfBoundsException e) {
-      return e.getClass() == IndexOutOfBoundsException.class ? NO_MONK : -1003;
-    } catch (NoSuchElementException e) {
-      return e.getClass() == NoSuchElementException.class ? NO_WHAT : -1003;
-    }
+    int thrown = Check.thrown(x, monk, what);
+    return thrown == 0 ? x.monk(monk, what) : -1000 - thrown;
   }
 
   private static long bit(boolean is) {
