@@ -110,6 +110,16 @@ public final class FaceTest {
       check.due("new " + made.group(1), own.contains(made.group(1)), true);
     }
     methodsAreShort(text.split("\n"));
+    onlyFieldsAreMade(bare.split("\n"));
+  }
+
+  /** Rows are made with the abbey and used again: a call makes nothing but what it throws. */
+  private static void onlyFieldsAreMade(String[] lines) {
+    for (String line : lines) {
+      boolean isField = line.trim().matches("(private |final )+\\S+ \\w+ = new .*");
+      boolean isThrown = line.trim().startsWith("throw new ");
+      check.due("only fields are made: " + line.trim(), isField || isThrown || !line.contains("new "), true);
+    }
   }
 
   private static void methodsAreShort(String[] lines) {
